@@ -15,6 +15,10 @@ final class Due {
         is(what, holds ? 1 : 0, 1);
     }
 
+    int checksSoFar() {
+        return checks;
+    }
+
     int wrongSoFar() {
         return wrong;
     }
