@@ -1,3 +1,4 @@
+import java.math.BigInteger;
 import java.util.ArrayList;
 import java.util.HashSet;
 import java.util.List;
@@ -147,6 +148,20 @@ public final class DigestEdgesTest extends EdgeCases {
         }
         is("score(0)", x.score(0), -54);
         is("digest()", x.digest(), m.digest());
+    }
+
+    // "in long arithmetic with overflow"
+
+    static void promise28_digest_wrapsAroundInLongArithmetic() {
+        BigInteger exact = BigInteger.valueOf(1777);
+        long[][] parts = {settings(1, 3, 0), cell(0, 0, 0, 0, 0), list(0), list(0), ANALYSIS, list(0)};
+        for (long[] part : parts) {
+            for (long value : part) {
+                exact = exact.multiply(BigInteger.valueOf(31)).add(BigInteger.valueOf(value));
+            }
+        }
+        is("the exact number is larger than a long", exact.bitLength() > 64 ? 1 : 0, 1);
+        is("digest()", oneCell().digest(), exact.longValue());
     }
 
     static void promise28_digest_changesNothing() {

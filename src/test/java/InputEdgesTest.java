@@ -309,6 +309,10 @@ public final class InputEdgesTest extends EdgeCases {
         is("clearInput()", x.clearInput(), 59);
     }
 
+    static void promise13_runInput_refusedOnABusyObjectChangesNothing() {
+        changesNothing("runInput()", EdgeCases::busy, x -> x.runInput(), INVALID_INPUT);
+    }
+
     static void promise13_runInput_goesOnOnceItIsComplete() {
         ScanDetector x = typed("3>07-,3>0");
         is("runInput()", x.runInput(), INVALID_INPUT);
