@@ -15,6 +15,12 @@ final class Due {
         is(what, holds ? 1 : 0, 1);
     }
 
+    void fail(String what) {
+        checks++;
+        wrong++;
+        System.out.println(what);
+    }
+
     int checksSoFar() {
         return checks;
     }

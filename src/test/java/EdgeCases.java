@@ -87,9 +87,9 @@ abstract class EdgeCases {
         try {
             method.invoke(null);
         } catch (InvocationTargetException e) {
-            DUE.isTrue(running + " threw " + e.getCause(), false);
+            DUE.fail(running + " threw " + e.getCause());
         } catch (IllegalAccessException e) {
-            DUE.isTrue(running + " cannot be called", false);
+            DUE.fail(running + " cannot be called");
         }
         DUE.isTrue(running + " checks something", DUE.checksSoFar() > before);
     }
@@ -124,7 +124,7 @@ abstract class EdgeCases {
         is(what + ": number of answers", got.size(), want.size());
         for (int i = 0; i < Math.min(got.size(), want.size()); i++) {
             if (!got.get(i).equals(want.get(i))) {
-                DUE.isTrue(running + ": " + what + ": " + got.get(i) + ", due is " + want.get(i), false);
+                DUE.fail(running + ": " + what + ": " + got.get(i) + ", due is " + want.get(i));
                 return;
             }
         }
