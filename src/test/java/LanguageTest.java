@@ -1,4 +1,6 @@
 import java.io.IOException;
+import java.lang.reflect.Field;
+import java.lang.reflect.Modifier;
 import java.nio.file.Files;
 import java.nio.file.Path;
 import java.util.Set;
@@ -29,7 +31,7 @@ public final class LanguageTest {
         each(code, "\\b((?!ScanDetector)[A-Z]\\w*\\.\\w+)\\(", LIBRARY);
         staticFieldsAreFinal(code);
         divisorsAreConstants(code);
-        DUE.is("classes inside, twelve at most", Math.max(12, count(code, "\\bclass \\w+") - 1), 12);
+        sizesAreSmall(text, code);
         DUE.end();
     }
 
@@ -55,6 +57,34 @@ public final class LanguageTest {
             boolean tested = matcher.group(1).contains(matcher.group(2) + " > 0 ?");
             DUE.isTrue("divisor " + matcher.group(2) + " is looked at before it divides", constant || tested);
         }
+    }
+
+    /** Rule 11: classes, fields, parameters, and the lines of a method. */
+    private static void sizesAreSmall(String text, String code) {
+        int classes = count(code, "\\bclass \\w+");
+        DUE.isTrue(classes + " classes, twelve at most", classes >= 1 && classes <= 12);
+        fewFields(ScanDetector.class);
+        for (Class<?> inner : ScanDetector.class.getDeclaredClasses()) {
+            fewFields(inner);
+        }
+        // a method ends at the first closing brace that stands as far to the right as it began
+        Matcher method = Pattern.compile("(?ms)^( +)(?:public|private)[^;={(]*\\(([^)]*)\\) \\{\n.*?^\\1\\}$").matcher(text);
+        int methods = 0;
+        while (method.find()) {
+            String head = method.group().substring(0, method.group().indexOf('{')).trim();
+            DUE.isTrue(head + " has at most 60 lines", method.group().lines().count() <= 60);
+            DUE.isTrue(head + " has at most seven parameters", method.group(2).split(",").length <= 7);
+            methods++;
+        }
+        DUE.is("methods and constructors that were measured", methods, count(code, "(?m)^ +(public|private)[^;={(]*\\([^)]*\\) \\{$"));
+    }
+
+    private static void fewFields(Class<?> type) {
+        int fields = 0;
+        for (Field field : type.getDeclaredFields()) {
+            fields += Modifier.isStatic(field.getModifiers()) ? 0 : 1;
+        }
+        DUE.isTrue(type.getName() + " has at most twenty fields", fields <= 20);
     }
 
     private static int count(String code, String pattern) {
